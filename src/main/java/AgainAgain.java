@@ -382,7 +382,7 @@ public final class AgainAgain {
         return Walk.placeOf(machines.nextOf(i, s, machines.actionOf(j, t)), machines.nextOf(j, t, slipped));
     }
 
-    /** What the questions of rest ask first, beside that the best plans against both are learnt. */
+    /** To be called ahead of restFrom, as the plans are to be learnt that it compares with. */
     private void takeBothSides(int i, int j) {
         walk.takeMatch(game, machines, i, j);
         back.takeMatch(game, machines, j, i);
@@ -767,7 +767,10 @@ public final class AgainAgain {
             return all;
         }
 
-        /** With the rate p by q: tail + (p by q)^tail of the ring, the ring by 1 - (p by q)^ring. */
+        /**
+         * The worth of the tail, and (p by q)^tail times that of the ring, which is the worth of going round once
+         * by 1 - (p by q)^ring; all over q^tail (q^ring - p^ring), which is at most 4^16.
+         */
         void worthInto(Game game, Ratio result) {
             long p = game.rateOver();
             long q = game.rateUnder();
@@ -796,7 +799,7 @@ public final class AgainAgain {
             return product;
         }
 
-        /** How many rounds two go on until both are at one place, or -1. */
+        /** How many rounds two go on until both are at one place, or -1; two come to no more pairs of places. */
         int meeting(int one, int two) {
             int first = one;
             int second = two;

@@ -7,6 +7,7 @@ public final class MatchesTest {
         Due due = new Due();
         action(due);
         match(due);
+        tailOneRingThree(due);
         longestRing(due);
         statesCountNotActions(due);
         sum(due);
@@ -17,6 +18,7 @@ public final class MatchesTest {
         slipThatStays(due);
         slipOfEachAction(due);
         slipByRound(due);
+        slipOfWhoGoesOn(due);
         wrongMachines(due);
         due.end();
     }
@@ -54,6 +56,31 @@ public final class MatchesTest {
         for (int what : Fixtures.outside(4)) {
             due.is("match(0, 1, " + what + ")", x.match(0, 1, what), BAD_SUM);
         }
+    }
+
+    /** Machine 0 goes its states 0, 1, 2, 3, 1, 2, 3, .. and does 0, 0, 1, 2, 0, 1, 2, .. */
+    private static void tailOneRingThree(Due due) {
+        AgainAgain x = new AgainAgain();
+        x.pay(0, 0, 1);
+        x.pay(1, 0, 10);
+        x.pay(2, 0, 30);
+        x.machine(4);
+        x.does(0, 2, 1);
+        x.does(0, 3, 2);
+        int[] nexts = {1, 2, 3, 1};
+        for (int s = 0; s < 4; s++) {
+            x.goes(0, s, 0, nexts[s]);
+        }
+        Fixtures.steady(x, 0);
+        for (int r = 1; r <= 1000; r += 9) {
+            due.is("action(0, 1, " + r + ")", x.action(0, 1, r), 0);
+            due.is("action(0, 1, " + (r - 1) + ")", x.action(0, 1, r - 1), r == 1 ? 0 : 2);
+            due.is("action(0, 1, " + (r + 1) + ")", x.action(0, 1, r + 1), r == 1000 ? -1 : 1);
+        }
+        due.is("match(0, 1, 0)", x.match(0, 1, 0), 1);
+        due.is("match(0, 1, 1)", x.match(0, 1, 1), 3);
+        due.is("sum(0, 1, 1000)", x.sum(0, 1, 1000), 1 + 333 * 41);
+        due.is("sum(0, 1, 999)", x.sum(0, 1, 999), 1 + 333 * 41 - 30);
     }
 
     /** Machine 0 goes on by one state in the round in which machine 1, of four states, does 1. */
@@ -219,6 +246,21 @@ public final class MatchesTest {
         }
         due.is("slip(0, 1, 100)", x.slip(0, 1, 100), 1);
         due.is("slip(0, 1, 99)", x.slip(0, 1, 99), -4);
+    }
+
+    /** Machine 0 does 0 and 1 in turns; machine 1 goes away for ever if it hears 2: the slip of 1. */
+    private static void slipOfWhoGoesOn(Due due) {
+        AgainAgain x = new AgainAgain();
+        x.machine(2);
+        x.does(0, 1, 1);
+        x.goes(0, 0, 0, 1);
+        x.goes(0, 1, 0, 0);
+        x.machine(2);
+        x.goes(1, 0, 2, 1);
+        for (int r = 0; r < 4; r++) {
+            due.is("slip(0, 1, " + r + ")", x.slip(0, 1, r), r % 2 == 0 ? 1 : -4);
+        }
+        due.is("slip(1, 0, 0): 0 hears 1 and stays behind", x.slip(1, 0, 0), -4);
     }
 
     private static void wrongMachines(Due due) {

@@ -9,8 +9,10 @@ public final class PlansTest {
         bestOfFourStates(due);
         planWorth(due);
         rest(due);
+        restAsTheGameIsNow(due);
         everywhere(due);
         deviation(due);
+        deviationOfNeighbours(due);
         deviationOfTheOtherSide(due);
         resists(due);
         invaders(due);
@@ -121,6 +123,28 @@ public final class PlansTest {
         due.is("rest(2, 2) at 1 by 3", x.rest(2, 2), 0);
     }
 
+    /** Nothing is kept of what was best ahead of a change. */
+    private static void restAsTheGameIsNow(Due due) {
+        AgainAgain x = Fixtures.dilemma();
+        x.discount(3, 4);
+        Fixtures.titForTat(x);
+        Fixtures.grim(x);
+        due.is("rest(0, 1)", x.rest(0, 1), 1);
+        x.pay(1, 0, 10);
+        due.is("rest(0, 1): taking pays now", x.rest(0, 1), 0);
+        x.pay(1, 0, 5);
+        due.is("rest(1, 0)", x.rest(1, 0), 1);
+        x.goes(1, 0, 1, 0);
+        due.is("rest(0, 1): 1 forgives all", x.rest(0, 1), 0);
+        due.is("rest(1, 0): 1 forgives all", x.rest(1, 0), 0);
+        due.is("everywhere(0, 1)", x.everywhere(0, 1), 0);
+        x.drop();
+        Fixtures.grim(x);
+        due.is("rest(0, 1)", x.rest(0, 1), 1);
+        x.does(0, 0, 1);
+        due.is("rest(0, 1): 0 takes at first", x.rest(0, 1), 0);
+    }
+
     private static void everywhere(Due due) {
         AgainAgain x = Fixtures.dilemmaOfThree();
         due.is("everywhere(1, 1)", x.everywhere(1, 1), 1);
@@ -173,6 +197,32 @@ public final class PlansTest {
             due.is("deviation(0, 1, " + what + ")", x.deviation(0, 1, what), -1);
             due.is("BAD is ahead of NONE", x.deviation(1, 1, what), -1);
         }
+    }
+
+    /** Machine 0 takes, but would help for ever from its state 1; machine 1 takes. */
+    private static void deviationOfNeighbours(Due due) {
+        AgainAgain x = Fixtures.dilemma();
+        x.machine(2);
+        x.does(0, 0, 1);
+        Fixtures.steady(x, 1);
+        deviationIs(due, x, 1, 0, 1, 1, 1);
+        deviationIs(due, x, 0, 1, 4, 0, 1);
+        AgainAgain y = Fixtures.dilemma();
+        y.discount(3, 4);
+        Fixtures.grim(y);
+        Fixtures.titForTat(y);
+        deviationIs(due, y, 0, 1, 1, 0, 0);
+        deviationIs(due, y, 1, 0, 1, 0, 3);
+        AgainAgain z = Fixtures.dilemma();
+        while (z.count(0) < 12) {
+            z.machine(4);
+        }
+        for (int s = 0; s < 4; s++) {
+            z.does(11, s, 1);
+        }
+        deviationIs(due, z, 11, 11, -4, -4, -4);
+        z.does(11, 3, 0);
+        deviationIs(due, z, 11, 11, 3, 1, 1);
     }
 
     /** The best answers are 2 against helping, 1 against doing 2. */

@@ -10,6 +10,7 @@ public final class SheetsTest {
         drawOrder(due);
         drawCells(due);
         drawFull(due);
+        drawOfTheLastCells(due);
         due.end();
     }
 
@@ -184,5 +185,19 @@ public final class SheetsTest {
         due.is("count(0)", x.count(0), 12);
         x.drop();
         due.is("room again", x.draw(1, 0, 0, 1), 11);
+    }
+
+    /** The last machine, of as many states as can be, of the last cells of the last sheet. */
+    private static void drawOfTheLastCells(Due due) {
+        AgainAgain x = new AgainAgain();
+        x.sheet(3, 2, 60);
+        x.lay(3, 59, 2);
+        for (int m = 0; m < 12; m++) {
+            due.is("draw(3, 2, 44, 4)", x.draw(3, 2, 44, 4), m);
+            due.is("its last next state", x.told(m, 3, 3), 2);
+            due.is("its last action", x.told(m, 3, 0), 0);
+        }
+        due.is("draw(3, 2, 45, 4)", x.draw(3, 2, 45, 4), -12);
+        due.is("draw(3, 2, 44, 4)", x.draw(3, 2, 44, 4), -3);
     }
 }
