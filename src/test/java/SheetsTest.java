@@ -14,13 +14,6 @@ public final class SheetsTest {
         due.end();
     }
 
-    /** Lays numbers from a cell on. */
-    private static void layAll(AgainAgain x, int k, int from, int... numbers) {
-        for (int i = 0; i < numbers.length; i++) {
-            x.lay(k, from + i, numbers[i]);
-        }
-    }
-
     private static void sheet(Due due) {
         AgainAgain x = new AgainAgain();
         int[][] bad = {{-1, 0, 1}, {4, 0, 1}, {0, -1, 1}, {0, 3, 1}, {0, 0, 61}, {0, 0, Integer.MAX_VALUE},
@@ -50,7 +43,7 @@ public final class SheetsTest {
     private static void sheetAnew(Due due) {
         AgainAgain x = new AgainAgain();
         x.sheet(1, 2, 8);
-        layAll(x, 1, 0, 2, 0, 0, 0, 1, 0, 0, 0);
+        Fixtures.layAll(x, 1, 0, 2, 0, 0, 0, 1, 0, 0, 0);
         due.is("sheet anew", x.sheet(1, 0, 4), 1);
         due.is("its lane is the new one", x.draw(1, 2, 0, 1), -13);
         due.is("its cells are 0", x.draw(1, 0, 0, 1), 0);
@@ -102,7 +95,7 @@ public final class SheetsTest {
             AgainAgain x = new AgainAgain();
             x.machine(1);
             x.sheet(2, lane, 19);
-            layAll(x, 2, 3, 2, 0, 1, 3, 1, 3, 2, 0, 0, 1, 1, 1, 2, 2, 3, 0);
+            Fixtures.layAll(x, 2, 3, 2, 0, 1, 3, 1, 3, 2, 0, 0, 1, 1, 1, 2, 2, 3, 0);
             due.is("draw of four states", x.draw(2, lane, 3, 4), 1);
             int[][] rows = {{2, 0, 1, 3}, {1, 3, 2, 0}, {0, 1, 1, 1}, {2, 2, 3, 0}};
             for (int s = 0; s < 4; s++) {
